@@ -215,6 +215,10 @@ final class PromiseTests {
         Check.same("owed(1) after a payment and a new price", x.owed(1), 270);
         Check.same("paidTo(1) after it", x.paidTo(1), 100);
         Check.same("paidTo(0) after it", x.paidTo(0), 30);
+        WineCooperative more = with("variety pink;plot cleo pink 9;load 1 1 80;load 3 1 80;");
+        Check.same("varietiesOf(0) of three", more.varietiesOf(0), 0);
+        Check.same("varietiesOf(1) of three", more.varietiesOf(1), 1);
+        Check.same("varietiesOf(2) of three", more.varietiesOf(2), 1);
         for (int wrong : new int[] {-1, 3, 6, MIN, MAX}) {
             Check.index("plotsOf(wrong)", () -> x.plotsOf(wrong));
             Check.index("weightOf(wrong)", () -> x.weightOf(wrong));
@@ -475,6 +479,10 @@ final class PromiseTests {
         Check.same("fullness() of empty tanks", with("").fullness(), 0.0f);
         Check.same("fullness() of full tanks",
                 with("load 1 100 80;load 1 300 80;load 1 200 80;").fullness(), 1.0f);
+        WineCooperative small = Check.loaded("cooperative 1 1;classes 1;variety v;grower g;plot g v 1;tank 1;"
+                + "load 0 1 7;");
+        Check.same("fullness() of a small tank", small.fullness(), 1.0f);
+        Check.same("averageSugar() of a small load", small.averageSugar(), 7.0);
         x.payGrower(1);
         x.undo();
         Check.same("cashDifference()", x.cashDifference(), 0);
@@ -656,6 +664,8 @@ final class PromiseTests {
         Check.same("meanSugar(0): 6700 by 100", x.meanSugar(0), 67);
         x.pump(2, 1);
         Check.same("the tanks", Check.output(x), "100:red 200:rose 0");
+        x.bottle(0, 99);
+        Check.same("pump(0, 2) of one bottle", x.pump(0, 2), 1);
         for (int same = 0; same < 3; same++) {
             int tank = same;
             Check.argument("pump(same, same)", () -> x.pump(tank, tank));

@@ -15,6 +15,7 @@ final class SetupTextTests {
         tooMany();
         refusedLoads();
         impossibleStatements();
+        textsThatEndTooEarly();
         oddBytes();
         unknownWords();
         failureChangesNothing();
@@ -235,6 +236,23 @@ final class SetupTextTests {
         good(1, BASE + "load 0 150 90;bottle 1 50;pump 1 0;");
     }
 
+    private static void textsThatEndTooEarly() {
+        Check.part("texts that end too early");
+        String cellar = BASE + "load 0 9 90;bottle 0 3;";
+        for (String statement : new String[] {"variety w", "price red 0 1", "grower carl", "plot ann red 1", "tank 1",
+            "load 0 1 90", "bottle 0 1", "sell 0 1 1", "pay ann", "pump 0 1"}) {
+            good(statement.startsWith("load") ? 2 : 1, cellar + statement + ";");
+            String[] words = statement.split(" ");
+            String start = cellar;
+            for (String word : words) {
+                error(1, start + word + "^");
+                start = start + word + " ";
+                error(1, start + "^");
+                error(1, start + (word == words[words.length - 1] ? "^pay" : "^;"));
+            }
+        }
+    }
+
     private static void oddBytes() {
         Check.part("odd bytes");
         error(1, "^\t" + HEAD);
@@ -256,6 +274,15 @@ final class SetupTextTests {
 
     private static void unknownWords() {
         Check.part("unknown words");
+        for (String word : new String[] {"variety", "price", "grower", "plot", "tank", "load", "bottle", "sell", "pay",
+            "pump"}) {
+            error(1, HEAD + "^x" + word.substring(1));
+            error(1, HEAD + "^" + word.substring(0, word.length() - 1) + "x");
+            error(1, HEAD + "^" + word + "x");
+            error(1, HEAD + "^" + word.substring(1));
+        }
+        error(1, "^xooperative 1 0;");
+        error(1, "cooperative 1 0;^xlasses 1;");
         error(1, BASE + "^red;");
         error(1, BASE + "^loads 0 1 90;");
         error(1, BASE + "^loa 0 1 90;");
