@@ -14,6 +14,10 @@ final class Check {
         part = name;
     }
 
+    static int count() {
+        return checks;
+    }
+
     static void same(String what, Object got, Object due) {
         checks++;
         if (!due.equals(got)) {
@@ -27,7 +31,7 @@ final class Check {
     }
 
     /** The class must be this very one: one below it may be an exception of the Java machine. */
-    private static void thrown(String what, Class<?> due, Runnable call) {
+    static void thrown(String what, Class<?> due, Runnable call) {
         Object got = "nothing";
         try {
             call.run();
@@ -35,6 +39,17 @@ final class Check {
             got = e.getClass();
         }
         same(what + " throws", got, due);
+    }
+
+    /** Whatever it answers, it throws nothing. */
+    static void answers(String what, Runnable call) {
+        Object got = "nothing";
+        try {
+            call.run();
+        } catch (RuntimeException e) {
+            got = e.getClass();
+        }
+        same(what + " throws", got, "nothing");
     }
 
     static void index(String what, Runnable call) {

@@ -1,9 +1,6 @@
 /** At least one test for each promise of the document, in its order: usual answers, edges, wrong inputs. */
 final class PromiseTests {
-    /** Two classes, two varieties, three growers (one without plots), three plots, three tanks. */
-    private static final String BASE = "cooperative 10 1000;classes 80 50;variety red;variety rose;"
-            + "price red 0 3;price red 1 2;price rose 0 5;grower ann;grower bert;grower cleo;"
-            + "plot ann red 10;plot bert rose 20;plot bert red 5;tank 100;tank 300;tank 200;";
+    private static final String BASE = Samples.BASE;
     private static final String TWENTY = repeat("load 1 1 80;", 20);
     private static final int MIN = Integer.MIN_VALUE;
     private static final int MAX = Integer.MAX_VALUE;
@@ -45,11 +42,7 @@ final class PromiseTests {
     }
 
     private static String repeat(String text, int times) {
-        StringBuilder all = new StringBuilder();
-        for (int i = 0; i < times; i++) {
-            all.append(text);
-        }
-        return all.toString();
+        return Samples.times(times, text);
     }
 
     private static WineCooperative with(String more) {
