@@ -1692,10 +1692,7 @@ public final class WineCooperative {
             if (from < 0 || from >= MAX_TANKS) {
                 return false;
             }
-            if (!isNumberHere(0, draft.cellar.tankTotal - 1)) {
-                return false;
-            }
-            if (tokens.number == from) {
+            if (tokens.kind == Tokens.NUMBER && tokens.number == from) {
                 return fail(NOT_NEW);
             }
             int to = readNumber(0, draft.cellar.tankTotal - 1);

@@ -207,6 +207,19 @@ final class BufferBoundaryTests {
     }
 
     @Sentence(of = "Promise 4", says = "If the text has no error, the state described by it replaces the current one.")
+    static void promise4NothingOfAnEarlierTextIsLeft() {
+        String least = "cooperative 10 1000;classes 80 50;variety red;grower ann;plot ann red 10;tank 100;load 0 9 80;";
+        for (String earlier : new String[] {Samples.BASE + "load 0 9 80;pay ann;bottle 0 9;sell 0 9 7;",
+            Samples.BASE + "load 0 9 80;pay ann;bottle 0 3;x"}) {
+            WineCooperative x = new WineCooperative();
+            Check.load(x, earlier);
+            Check.same("load()", Check.load(x, least), 1);
+            Check.same("the state after " + earlier, Fingerprint.of(x), Fingerprint.of(Check.loaded(least)));
+            Check.same("isPaid(0)", x.isPaid(0), false);
+        }
+    }
+
+    @Sentence(of = "Promise 4", says = "If the text has no error, the state described by it replaces the current one.")
     static void promise4ATextWithAnErrorReplacesNothing() {
         String text = Samples.BASE + "load 0 9 80;bottle 0 3;";
         for (String wrong : new String[] {"", "x", Samples.WIDE + "x", Samples.BASE + "load 1 9 80;sell 0 1 1;"}) {

@@ -211,5 +211,6 @@ final class CatalogueBoundaryTests {
         Check.same("no loads", Check.loaded(FOUR).greatestClass(), -1);
         Check.same("no varieties", Samples.none().greatestClass(), -1);
         Check.same("the pair 0", Samples.one().greatestClass(), 0);
+        Check.same("one load of one kilogram", Samples.base("load 1 1 60;").greatestClass(), 11);
     }
 }

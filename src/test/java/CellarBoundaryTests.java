@@ -329,6 +329,9 @@ final class CellarBoundaryTests {
         Check.same("of the other one", y.bottlesOf(1), 7);
         y.sell(1, 7, 1);
         Check.same("all sold", y.bottlesOf(1), 0);
+        WineCooperative z = Samples.base("load 0 9 80;load 1 7 80;");
+        Check.same("in a tank beside another variety", z.bottlesOf(0), 9);
+        Check.same("in a tank behind another variety", z.bottlesOf(1), 7);
     }
 
     @Sentence(of = "Promise 45", says = NO_VARIETY)
@@ -475,6 +478,9 @@ final class CellarBoundaryTests {
         Check.same("full tanks", Samples.huge(20).fullness(), 1.0f);
         WineCooperative x = Samples.base("load 0 1 80;load 1 1 80;");
         Check.same("2 of 600", x.fullness(), 2.0f / 600.0f);
+        String tiny = "cooperative 1 0;classes 1;variety v;grower g;plot g v 1;tank 1;";
+        Check.same("a capacity of 1, empty", Check.loaded(tiny).fullness(), 0.0f);
+        Check.same("a capacity of 1, full", Check.loaded(tiny + "load 0 1 7;").fullness(), 1.0f);
         x.bottle(0, 1);
         Check.same("1 of 600", x.fullness(), 1.0f / 600.0f);
     }
@@ -495,6 +501,7 @@ final class CellarBoundaryTests {
         WineCooperative least = Samples.huge(0);
         least.deliver(0, 5000, 0);
         Check.same("sugar 0", least.averageSugar(), 0.0);
+        Check.same("one kilogram", Samples.base("load 0 1 81;").averageSugar(), 81.0);
     }
 
     @Sentence(of = "Promise 53", says = "0.0 if there are no loads.")

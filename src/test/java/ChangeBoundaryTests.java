@@ -285,6 +285,19 @@ final class ChangeBoundaryTests {
         Check.state("no bottle is left", () -> x.sell(4, 1, 1));
     }
 
+    /** No run of calls comes to this limit, so the cash is put in by force. */
+    @Sentence(of = "Promise 57", says = "or if the cash would be greater than 1000000000")
+    static void promise57ThrowsIfTheCashWouldBeTooMuch() {
+        Supplier<WineCooperative> rich = () -> Samples.withCash(CELLAR.get(), 999999940);
+        Check.same("just the limit, by cents", rich.get().sell(0, 1, 60), 1000000000);
+        Edges.refusedNow("of a cent more than the limit", rich, x -> x.sell(0, 1, 61));
+        Check.same("just the limit, by bottles", rich.get().sell(0, 20, 3), 1000000000);
+        Edges.refusedNow("of a bottle more than the limit", rich, x -> x.sell(0, 16, 4));
+        Supplier<WineCooperative> richest = () -> Samples.withCash(CELLAR.get(), 1000000000);
+        Edges.refusedNow("at the limit", richest, x -> x.sell(0, 1, 1));
+        Edges.refusedNow("of all bottles at the limit", richest, x -> x.sell(0, 20, 9999));
+    }
+
     @Sentence(of = "Promise 58", says = "Pays a load.")
     static void promise58PaysThisLoadOnly() {
         WineCooperative x = Samples.base("load 1 4 80;load 1 5 80;load 1 6 80;");

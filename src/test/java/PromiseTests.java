@@ -1,3 +1,5 @@
+import java.util.function.Consumer;
+
 /** At least one test for each promise of the document, in its order: usual answers, edges, wrong inputs. */
 final class PromiseTests {
     private static final String BASE = Samples.BASE;
@@ -673,35 +675,40 @@ final class PromiseTests {
     private static void saveAndRestore() {
         Check.part("promises 61 and 62");
         WineCooperative x = with("load 0 60 81;bottle 0 20;");
-        String first = Fingerprint.of(x);
+        String first = brief(x);
         Check.same("save(0)", x.save(0), 1000);
         Check.state("restore(1)", () -> x.restore(1));
         x.sell(0, 7, 3);
         x.payLoad(0);
         x.deliver(1, 9, 80);
-        String second = Fingerprint.of(x);
+        String second = brief(x);
         Check.same("save(1)", x.save(1), 1021 - 180);
         Check.same("restore(0)", x.restore(0), 1000);
-        Check.same("the first state", Fingerprint.of(x), first);
+        Check.same("the first state", brief(x), first);
         x.deliver(2, 3, 80);
         Check.same("restore(1)", x.restore(1), 841);
-        Check.same("the second state", Fingerprint.of(x), second);
+        Check.same("the second state", brief(x), second);
         Check.same("restore(0): the slot keeps it", x.restore(0), 1000);
-        Check.same("the first state", Fingerprint.of(x), first);
+        Check.same("the first state", brief(x), first);
         Check.same("undo of restore", x.undo(), 5);
-        Check.same("the second state", Fingerprint.of(x), second);
+        Check.same("the second state", brief(x), second);
         x.undo();
         x.undo();
         x.undo();
-        Check.same("undo brings back an earlier state", Fingerprint.of(x), second);
+        Check.same("undo brings back an earlier state", brief(x), second);
         Check.same("save(0) replaces", x.save(0), 841);
         x.undo();
         Check.same("restore(0)", x.restore(0), 841);
-        Check.same("the second state", Fingerprint.of(x), second);
+        Check.same("the second state", brief(x), second);
         for (int wrong : new int[] {-1, 2, 3, MIN, MAX}) {
             Check.index("save(wrong)", () -> x.save(wrong));
             Check.index("restore(wrong)", () -> x.restore(wrong));
         }
+    }
+
+    private static String brief(WineCooperative x) {
+        return x.cash() + " " + x.loadCount() + " " + x.unsold(0) + " " + x.isPaid(0) + " " + x.averageSugar() + " "
+                + x.fullness() + " " + x.price(0, 0) + " " + x.owedToAll();
     }
 
     private static void undo() {
@@ -748,23 +755,24 @@ final class PromiseTests {
 
     private static void undoOfEachChange() {
         Check.part("promise 63, each change");
-        WineCooperative x = with("load 0 60 81;load 1 50 80;bottle 0 20;");
-        x.save(0);
-        undone(x, "load", () -> Check.load(x, "cooperative 1 1;classes 1;"));
-        undone(x, "deliver", () -> x.deliver(0, 5, 80));
-        undone(x, "setPrice", () -> x.setPrice(0, 0, 77));
-        undone(x, "bottle", () -> x.bottle(0, 40));
-        undone(x, "sell", () -> x.sell(0, 20, 3));
-        undone(x, "payLoad", () -> x.payLoad(0));
-        undone(x, "payGrower", () -> x.payGrower(1));
-        undone(x, "pump", () -> x.pump(0, 2));
-        x.deliver(0, 5, 80);
-        undone(x, "restore", () -> x.restore(0));
+        undone("load", x -> Check.load(x, "cooperative 1 1;classes 1;"));
+        undone("deliver", x -> x.deliver(0, 5, 80));
+        undone("setPrice", x -> x.setPrice(0, 0, 77));
+        undone("bottle", x -> x.bottle(0, 40));
+        undone("sell", x -> x.sell(0, 20, 3));
+        undone("payLoad", x -> x.payLoad(0));
+        undone("payGrower", x -> x.payGrower(1));
+        undone("pump", x -> x.pump(0, 2));
+        undone("restore", x -> x.restore(0));
     }
 
-    private static void undone(WineCooperative x, String what, Runnable change) {
+    private static void undone(String what, Consumer<WineCooperative> change) {
+        WineCooperative x = with("load 0 60 81;load 1 50 80;bottle 0 20;");
+        x.deliver(0, 5, 80);
+        x.save(0);
+        x.undo();
         String before = Fingerprint.of(x);
-        change.run();
+        change.accept(x);
         Check.same(what + " changes something", Fingerprint.of(x).equals(before), false);
         x.undo();
         Check.same("undo of " + what, Fingerprint.of(x), before);

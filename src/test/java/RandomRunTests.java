@@ -5,7 +5,8 @@ import java.util.Map;
 
 /**
  * Long runs of calls with arguments from a fixed row of numbers. Each answer is compared with other
- * answers of the same object that must agree with it.
+ * answers of the same object that must agree with it. The questions that are asked in between go past
+ * the 512 calls of the document, where its answers are free: this class goes on as before.
  */
 final class RandomRunTests {
     private static final int RUNS = 400;

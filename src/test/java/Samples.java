@@ -1,3 +1,4 @@
+import java.lang.reflect.Field;
 import java.util.function.Supplier;
 
 /** Setup texts and objects from which many tests start. */
@@ -65,6 +66,22 @@ final class Samples {
         for (int i = 0; i < loads; i++) {
             x.deliver(0, 5000, 250);
         }
+        return x;
+    }
+
+    /** Puts more cash in than any run of calls can earn. */
+    static WineCooperative withCash(WineCooperative x, int cents) {
+        try {
+            Field field = WineCooperative.class.getDeclaredField("books");
+            field.setAccessible(true);
+            Object books = field.get(x);
+            Field cash = books.getClass().getDeclaredField("cash");
+            cash.setAccessible(true);
+            cash.setInt(books, cents);
+        } catch (ReflectiveOperationException e) {
+            throw new IllegalStateException("the cash stands elsewhere now", e);
+        }
+        Check.same("cash()", x.cash(), cents);
         return x;
     }
 

@@ -225,6 +225,9 @@ final class SetupBoundaryTests {
         WineCooperative x = Check.loaded(CELLAR + "bottle 0 1;");
         Check.same("unsold(1)", x.unsold(1), 1);
         Check.same("content(0)", x.content(0), 5);
+        String five = Samples.HUGE + "load 0 5000 0;pump 0 4;";
+        Check.same("the last tank of five", Check.loaded(five + "bottle 4 9;").content(4), 4991);
+        Setups.error(2, five + "bottle ^5 1;");
         WineCooperative huge = Check.loaded(Samples.HUGE + Samples.times(4, "load 0 5000 0;") + "bottle 0 20000;");
         Check.same("unsold(0)", huge.unsold(0), 20000);
         Setups.error(2, CELLAR + "bottle 0 ^0;");
@@ -241,6 +244,9 @@ final class SetupBoundaryTests {
         WineCooperative huge = Check.loaded(Samples.HUGE + Samples.times(4, "load 0 5000 0;")
                 + "bottle 0 20000;sell 0 20000 9999;");
         Check.same("cash()", huge.cash(), 99999 + 20000 * 9999);
+        String twelve = BASE + "load 0 19 90;" + Samples.times(12, "bottle 0 1;");
+        Check.same("the last lot of twelve", Check.loaded(twelve + "sell 11 1 7;").unsold(11), 0);
+        Setups.error(2, twelve + "sell ^12 1 7;");
         Setups.error(2, CELLAR + "sell 0 ^0 1;");
         Setups.error(2, CELLAR + "sell 0 ^20001 1;");
         Setups.error(6, CELLAR + "sell 0 20000 1^;");
@@ -264,6 +270,11 @@ final class SetupBoundaryTests {
         Check.same("the tanks", Check.output(Check.loaded(BASE + "load 0 100 90;pump 0 1;")), "0 100:red");
         Check.same("just enough room", Check.output(Check.loaded(BASE + "load 0 150 90;bottle 1 50;pump 1 0;")),
                 "100:red 0");
+        String five = Samples.HUGE + "load 0 9 90;";
+        Check.same("the last tank of five", Check.loaded(five + "pump 0 4;").content(4), 9);
+        Check.same("from the last tank of five", Check.loaded(five + "pump 0 4;pump 4 3;").content(3), 9);
+        Setups.error(2, five + "pump 0 ^5;");
+        Setups.error(2, five + "pump ^5 0;");
         Setups.error(2, BASE + "load 0 1 90;pump 0 ^2;");
         Setups.error(2, BASE + "load 0 1 90;pump ^2 0;");
         Setups.error(1, BASE + "load 0 1 90;pump 0 ^;");
@@ -329,6 +340,9 @@ final class SetupBoundaryTests {
         Setups.error(1, "cooperative ^a 0;");
         Setups.error(1, HEAD + "^x;");
         Setups.error(1, HEAD + "^prices");
+        Setups.error(1, HEAD + "^xrice red 0 1;");
+        Setups.error(1, "^xooperative 1 0;");
+        Setups.error(1, "cooperative 1 0;^xlasses 1;");
         for (String statement : STATEMENTS) {
             String start = CELLAR;
             for (String word : statement.split(" ")) {

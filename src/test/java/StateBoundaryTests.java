@@ -18,7 +18,7 @@ final class StateBoundaryTests {
 
     @Sentence(of = "Promise 61", says = "Saves everything that undo would bring back in a slot")
     static void promise61SavesAllOfTheState() {
-        WineCooperative x = Samples.wide(18, 12);
+        WineCooperative x = Samples.wide(9, 12);
         x.sell(0, 1, 9);
         x.setPrice(1, 0, 9);
         x.payGrower(1);
@@ -26,7 +26,7 @@ final class StateBoundaryTests {
         x.save(1);
         Check.load(x, Samples.NONE);
         x.restore(1);
-        WineCooperative y = Samples.wide(18, 12);
+        WineCooperative y = Samples.wide(9, 12);
         y.sell(0, 1, 9);
         y.setPrice(1, 0, 9);
         y.payGrower(1);

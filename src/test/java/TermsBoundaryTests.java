@@ -85,6 +85,9 @@ final class TermsBoundaryTests {
         Check.same("classBySugar(59)", x.classBySugar(59), -1);
         Check.same("refusal of sugar 59", x.refusal(0, 1, 59), 2);
         Check.same("classBySugar(0)", x.classBySugar(0), -1);
+        WineCooperative four = Check.loaded("cooperative 1 0;classes 90 75 60 45;");
+        Check.same("classBySugar(45) of four classes", four.classBySugar(45), 3);
+        Check.same("classBySugar(44) of four classes", four.classBySugar(44), -1);
     }
 
     @Sentence(of = "Terms", says = "there is a price in cents per kilogram (0 to 999), 0 at first.")
@@ -156,6 +159,17 @@ final class TermsBoundaryTests {
         }
         Check.index("yieldLimit(8)", () -> x.yieldLimit(8));
         Setups.error(5, eight + "^plot g v 19;");
+    }
+
+    @Sentence(of = "Terms", says = "A plot belongs to a grower, has a variety and an area (1 to 99).")
+    static void termsEachOf8PlotsHasAGrowerAndAVariety() {
+        int[] growers = {0, 1, 2, 3, 4, 5, 0, 1};
+        for (int plot = 0; plot < 8; plot++) {
+            WineCooperative x = Check.loaded(Samples.WIDE);
+            x.deliver(plot, 10, 90);
+            Check.same("weightOf the grower of plot " + plot, x.weightOf(growers[plot]), 10);
+            Check.same("varietyIn(0) of plot " + plot, x.varietyIn(0), plot % 4);
+        }
     }
 
     @Sentence(of = "Terms", says = "A plot belongs to a grower, has a variety and an area (1 to 99).")
@@ -423,9 +437,12 @@ final class TermsBoundaryTests {
         x.sell(0, 1, 1);
         Check.state("a 13th lot, though one is sold", () -> x.bottle(0, 1));
         Check.same("lotCount()", x.lotCount(), 12);
-        String twelve = Samples.BASE + "load 0 50 80;" + Samples.times(12, "bottle 0 1;");
-        Check.same("lotCount() of the text", Check.loaded(twelve).lotCount(), 12);
-        Setups.error(6, twelve + "bottle 0 1^;");
+        String twelve = Samples.BASE + "load 0 50 81;" + Samples.times(11, "bottle 0 1;") + "bottle 0 39;";
+        WineCooperative y = Check.loaded(twelve);
+        Check.same("lotCount() of the text", y.lotCount(), 12);
+        Check.same("unsold(11) of the text", y.unsold(11), 39);
+        Check.same("lotSugar(11) of the text", y.lotSugar(11), 81);
+        Setups.error(6, twelve + "load 0 50 81;bottle 0 1^;");
     }
 
     @Sentence(of = "Terms", says = "When wine is bottled from a tank, a lot is made")
@@ -446,6 +463,7 @@ final class TermsBoundaryTests {
     static void termsBottlingTakesTheMeanSugarOut() {
         WineCooperative x = Samples.base("load 0 2 80;load 0 2 83;");
         x.bottle(0, 3);
+        Check.same("lotSugar(0): 326 by 4", x.lotSugar(0), 81);
         Check.same("content(0)", x.content(0), 1);
         Check.same("meanSugar(0): 326 less 3 by 81", x.meanSugar(0), 83);
     }

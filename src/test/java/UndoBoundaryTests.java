@@ -180,6 +180,19 @@ final class UndoBoundaryTests {
     }
 
     @Sentence(of = "Terms", says = "The latest 6 changes can be undone, the latest one first.")
+    static void termsTheLatest6ChangesUpToThe512thCall() {
+        WineCooperative x = new WineCooperative();
+        for (int cents = 1; cents <= 499; cents++) {
+            x.setPrice(0, 0, cents);
+        }
+        for (int left = 5; left >= 0; left--) {
+            Check.same("undo", x.undo(), left);
+            Check.same("price(0, 0)", x.price(0, 0), 493 + left);
+        }
+        Check.state("undo in the 512th call", x::undo);
+    }
+
+    @Sentence(of = "Terms", says = "The latest 6 changes can be undone, the latest one first.")
     static void termsAnUndoneChangeIsGone() {
         WineCooperative x = new WineCooperative();
         for (int cents = 1; cents <= 6; cents++) {
