@@ -195,6 +195,7 @@ final class CatalogueBoundaryTests {
         WineCooperative all = allPairs();
         all.deliver(0, 1, 45);
         Check.same("greatestClass() by one kilogram", all.greatestClass(), 3);
+        Check.same("greatestClass() of 20 loads", Samples.huge(20).greatestClass(), 1);
     }
 
     @Sentence(of = "Promise 18", says = "among several the one whose first load came first")

@@ -329,6 +329,13 @@ final class CellarBoundaryTests {
         Check.same("of the other one", y.bottlesOf(1), 7);
         y.sell(1, 7, 1);
         Check.same("all sold", y.bottlesOf(1), 0);
+        WineCooperative full = Samples.wide(20, 12);
+        Check.same("with 12 lots", full.bottlesOf(0), 50);
+        full.sell(11, 1, 1);
+        Check.same("with 12 lots, one of them sold", full.bottlesOf(1), 49);
+        WineCooperative again = Check.loaded(Samples.ONE);
+        Check.load(again, Samples.ONE.replace("bottle 0 10;", ""));
+        Check.same("no lot of an earlier text", again.bottlesOf(0), 40);
         WineCooperative z = Samples.base("load 0 9 80;load 1 7 80;");
         Check.same("in a tank beside another variety", z.bottlesOf(0), 9);
         Check.same("in a tank behind another variety", z.bottlesOf(1), 7);
